@@ -22,13 +22,20 @@ final class Check {
         }
     }
 
-    /** The answer, or the exact class of what was thrown: what the machine throws is a subclass of its kind. */
+    /** The answer, or the exact class of what was thrown, with a word more if the machine or the library threw it. */
     static String outcome(Call call) {
         try {
             return String.valueOf(call.run());
         } catch (RuntimeException e) {
-            return e.getClass().getSimpleName();
+            String kind = e.getClass().getSimpleName();
+            return isThrownByCode(e) ? kind : kind + " unasked";
         }
+    }
+
+    // The library's own list throws IndexOutOfBoundsException too: only its place tells the two apart.
+    private static boolean isThrownByCode(RuntimeException e) {
+        StackTraceElement[] trace = e.getStackTrace();
+        return trace.length > 0 && trace[0].getClassName().matches("(Dataroom|PlainRoom)(\\$.*)?");
     }
 
     /** The call throws just this, and nothing that can be asked has changed by it. */

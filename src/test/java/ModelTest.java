@@ -71,11 +71,21 @@ public final class ModelTest {
         return number(0, parties - 1);
     }
 
-    private int someFiles() {
+    private int someFiles(int p) {
         if (chance(30)) {
             return chance(wrongOf100) ? 0 : 1 << draw(Math.max(1, files));
         }
-        return number(1, (1 << files) - 1);
+        int set = number(1, (1 << files) - 1);
+        int held = chance(70) ? set & rightsOf(p) : 0;
+        return held == 0 ? set : held;
+    }
+
+    private int rightsOf(int p) {
+        int held = 0;
+        for (int f = 0; f < files && p >= 0 && p < parties; f++) {
+            held |= plain.rightTo(p, f) == Dataroom.NOTHING ? 0 : 1 << f;
+        }
+        return held;
     }
 
     private int aBit() {
@@ -127,7 +137,7 @@ public final class ModelTest {
 
     private String question() {
         int p = aParty();
-        int set = someFiles();
+        int set = someFiles(p);
         int bit = aBit();
         String args = "(" + p + ", " + set + ", " + bit + ")";
         same("cost" + args, () -> room.cost(p, set, bit), () -> plain.cost(p, set, bit));
