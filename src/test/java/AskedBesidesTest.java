@@ -17,21 +17,6 @@ public final class AskedBesidesTest {
         Check.end();
     }
 
-    /** Files with these numbers, and parties with the budget 128 and the same right to all of them. */
-    private static Dataroom roomOf(int parties, int right, int... numbers) {
-        Dataroom room = new Dataroom();
-        for (int number : numbers) {
-            room.file(number);
-        }
-        for (int p = 0; p < parties; p++) {
-            room.party(128);
-            for (int f = 0; f < numbers.length; f++) {
-                room.right(p, f, right, 0, 5000);
-            }
-        }
-        return room;
-    }
-
     private static String told(Dataroom room, int answer) {
         String told = "";
         for (int what = 0; what <= 5; what++) {
@@ -41,7 +26,7 @@ public final class AskedBesidesTest {
     }
 
     private static void promise12Answer() {
-        Dataroom room = roomOf(2, READ, 200, 7);
+        Dataroom room = Check.roomOf(2, READ, 200, 7);
         room.ask(1, 3, ALL);
         room.pass(42);
         room.ask(0, 2, 2);
@@ -65,7 +50,7 @@ public final class AskedBesidesTest {
     }
 
     private static void promises13And14Spent() {
-        Dataroom room = roomOf(2, READ, 1, 2, 4, 8);
+        Dataroom room = Check.roomOf(2, READ, 1, 2, 4, 8);
         dueSpent("nothing asked", room, 0, 0);
         room.ask(0, 3, 0);
         dueSpent("one set of one bit", room, 0, 1);
@@ -93,7 +78,7 @@ public final class AskedBesidesTest {
     }
 
     private static void promises13And14SpentOfManyFiles() {
-        Dataroom room = roomOf(1, READ, new int[16]);
+        Dataroom room = Check.roomOf(1, READ, new int[16]);
         for (int f = 0; f < 16; f++) {
             room.ask(0, 1 << f, ALL);
             dueSpent("files to " + f, room, 0, 8 * f + 8);
@@ -108,7 +93,7 @@ public final class AskedBesidesTest {
 
     /** Between the answers files come, so that each is known among more sets than the one before. */
     private static void dueFilesOneByOne() {
-        Dataroom room = roomOf(1, READ, 1);
+        Dataroom room = Check.roomOf(1, READ, 1);
         for (int f = 1; f < 16; f++) {
             room.file(f);
             room.right(0, f, READ, 0, 5000);
@@ -119,7 +104,7 @@ public final class AskedBesidesTest {
     }
 
     private static void promise15Finds() {
-        Dataroom room = roomOf(2, READ, 1, 2, 4);
+        Dataroom room = Check.roomOf(2, READ, 1, 2, 4);
         Check.due("nothing asked", room.finds(0, 0), 0);
         room.ask(0, 1, 7);
         room.ask(0, 1, 0);
@@ -141,7 +126,7 @@ public final class AskedBesidesTest {
     }
 
     private static void promise16Together() {
-        Dataroom room = roomOf(3, ASK, 1, 2, 4);
+        Dataroom room = Check.roomOf(3, ASK, 1, 2, 4);
         room.ask(0, 3, 0);
         room.ask(1, 7, 0);
         room.ask(2, 6, ALL);
@@ -167,7 +152,7 @@ public final class AskedBesidesTest {
     }
 
     private static void promise16TogetherRecalled() {
-        Dataroom room = roomOf(2, ASK, 1, 2);
+        Dataroom room = Check.roomOf(2, ASK, 1, 2);
         room.file(9);
         room.right(0, 2, READ, 0, 5000);
         room.ask(0, 3, ALL);
@@ -205,7 +190,7 @@ public final class AskedBesidesTest {
     }
 
     private static void promise18IsSealed() {
-        Dataroom room = roomOf(0, READ, 1, 2);
+        Dataroom room = Check.roomOf(0, READ, 1, 2);
         Check.due("never sealed", room.isSealed(0), false);
         room.seal(1, 2);
         Check.due("sealed", room.isSealed(1), true);
@@ -227,7 +212,7 @@ public final class AskedBesidesTest {
     }
 
     private static void promise19Count() {
-        Dataroom room = roomOf(2, ASK, 1, 2);
+        Dataroom room = Check.roomOf(2, ASK, 1, 2);
         room.right(0, 1, READ, 0, 1);
         Check.due("nothing asked", counts(room, 0), "000000");
         room.ask(0, 2, ALL);

@@ -15,6 +15,21 @@ final class Check {
     private Check() {
     }
 
+    /** Files with these numbers, and parties with the budget 128 and the same right to all of them in all hours. */
+    static Dataroom roomOf(int parties, int right, int... numbers) {
+        Dataroom room = new Dataroom();
+        for (int number : numbers) {
+            room.file(number);
+        }
+        for (int p = 0; p < parties; p++) {
+            room.party(128);
+            for (int f = 0; f < numbers.length; f++) {
+                room.right(p, f, right, 0, 5000);
+            }
+        }
+        return room;
+    }
+
     static void due(String what, Object got, Object want) {
         if (!want.equals(got)) {
             wrong++;

@@ -25,19 +25,8 @@ public final class QuestionsTest {
         Check.end();
     }
 
-    /** Files with these numbers, and one party with the budget 128 and the same right to all of them. */
-    private static Dataroom roomOf(int right, int... numbers) {
-        Dataroom room = new Dataroom();
-        room.party(128);
-        for (int f = 0; f < numbers.length; f++) {
-            room.file(numbers[f]);
-            room.right(0, f, right, 0, 5000);
-        }
-        return room;
-    }
-
     private static void promise10Answers() {
-        Dataroom room = roomOf(READ, 0b1100, 0b1010, 0b1001, 255);
+        Dataroom room = Check.roomOf(1, READ, 0b1100, 0b1010, 0b1001, 255);
         Check.due("one file, all bits", room.ask(0, 1, ALL), 0b1100);
         Check.due("two files, all bits", room.ask(0, 3, ALL), 0b0110);
         Check.due("three files, all bits", room.ask(0, 7, ALL), 0b1111);
@@ -50,7 +39,7 @@ public final class QuestionsTest {
     }
 
     private static void promise10Throws() {
-        Dataroom room = roomOf(READ, 1, 2);
+        Dataroom room = Check.roomOf(1, READ, 1, 2);
         room.ask(0, 3, 0);
         Check.dueIndex("ask of the party 1", room, () -> room.ask(1, 1, 0));
         Check.dueIndex("ask of the party -1", room, () -> room.ask(-1, 1, 0));
@@ -70,7 +59,7 @@ public final class QuestionsTest {
     }
 
     private static void promise10MostAnswers() {
-        Dataroom room = roomOf(READ, 1);
+        Dataroom room = Check.roomOf(1, READ, 1);
         room.party(0);
         for (int a = 0; a < 149; a++) {
             room.ask(0, 1, 0);
@@ -89,7 +78,7 @@ public final class QuestionsTest {
     }
 
     private static void promise10NoRight() {
-        Dataroom room = roomOf(READ, 1, 2);
+        Dataroom room = Check.roomOf(1, READ, 1, 2);
         room.file(4);
         Check.due("none to one file of the set", room.ask(0, 7, 0), NO_RIGHT);
         room.right(0, 2, READ, 1, 1);
@@ -103,7 +92,7 @@ public final class QuestionsTest {
     }
 
     private static void promise10Sealed() {
-        Dataroom room = roomOf(READ, 1, 2, 4);
+        Dataroom room = Check.roomOf(1, READ, 1, 2, 4);
         room.seal(1, 3);
         Check.due("one file of the set", room.ask(0, 3, 0), SEALED);
         Check.due("a set without it", room.ask(0, 5, 0), 1);
@@ -115,7 +104,7 @@ public final class QuestionsTest {
     }
 
     private static void promise10Tells() {
-        Dataroom room = roomOf(ASK, 1, 2, 4);
+        Dataroom room = Check.roomOf(1, ASK, 1, 2, 4);
         Check.due("one file, to ASK alone", room.ask(0, 1, 0), TELLS);
         Check.due("one file, all bits", room.ask(0, 1, ALL), TELLS);
         Check.due("two files tell of none", room.ask(0, 3, 0), 1);
@@ -133,7 +122,7 @@ public final class QuestionsTest {
     }
 
     private static void promise10TellsOfAnotherFile() {
-        Dataroom room = roomOf(ASK, 1, 2, 4, 8);
+        Dataroom room = Check.roomOf(1, ASK, 1, 2, 4, 8);
         room.right(0, 0, READ, 0, 5000);
         Check.due("two files", room.ask(0, 3, 3), 0);
         Check.due("to READ the one leaves the other", room.ask(0, 1, 3), TELLS);
@@ -150,7 +139,7 @@ public final class QuestionsTest {
     }
 
     private static void promise10TellsByHours() {
-        Dataroom room = roomOf(READ, 1, 2);
+        Dataroom room = Check.roomOf(1, READ, 1, 2);
         room.ask(0, 3, ALL);
         room.right(0, 1, READ, 2, 2);
         room.pass(1);
@@ -166,7 +155,7 @@ public final class QuestionsTest {
     }
 
     private static void promise10Dear() {
-        Dataroom room = roomOf(READ, 1, 2, 4);
+        Dataroom room = Check.roomOf(1, READ, 1, 2, 4);
         room.budget(0, 8);
         Check.due("one bit", room.ask(0, 1, 0), 1);
         Check.due("eight more", room.ask(0, 2, ALL), DEAR);
@@ -181,7 +170,7 @@ public final class QuestionsTest {
     }
 
     private static void promise10OrderOfRefusals() {
-        Dataroom room = roomOf(ASK, 1, 2);
+        Dataroom room = Check.roomOf(1, ASK, 1, 2);
         room.budget(0, 0);
         room.seal(0, 0);
         room.right(0, 0, ASK, 1, 5000);
@@ -203,7 +192,7 @@ public final class QuestionsTest {
     }
 
     private static void promise10RecalledIsNotKnown() {
-        Dataroom room = roomOf(ASK, 1, 2, 4);
+        Dataroom room = Check.roomOf(1, ASK, 1, 2, 4);
         room.ask(0, 3, 0);
         Check.due("with the first it tells", room.ask(0, 7, 0), TELLS);
         room.change(1, 2);
@@ -218,7 +207,7 @@ public final class QuestionsTest {
     }
 
     private static void promise11Cost() {
-        Dataroom room = roomOf(READ, 1, 2, 4, 8);
+        Dataroom room = Check.roomOf(1, READ, 1, 2, 4, 8);
         Check.due("one bit", room.cost(0, 1, 0), 1);
         Check.due("all bits", room.cost(0, 15, ALL), 8);
         room.ask(0, 3, 0);
@@ -256,7 +245,7 @@ public final class QuestionsTest {
     }
 
     private static void promise11Throws() {
-        Dataroom room = roomOf(READ, 1, 2);
+        Dataroom room = Check.roomOf(1, READ, 1, 2);
         Check.dueIndex("cost of the party 1", room, () -> room.cost(1, 1, 0));
         Check.dueIndex("cost of the party -1", room, () -> room.cost(-1, 1, 0));
         Check.dueIndex("the index first", room, () -> room.cost(1, 0, 8));

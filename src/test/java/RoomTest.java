@@ -17,21 +17,6 @@ public final class RoomTest {
         Check.end();
     }
 
-    /** Files with these numbers, and parties with the budget 128 and the right to READ all files in all hours. */
-    private static Dataroom roomOf(int parties, int... numbers) {
-        Dataroom room = new Dataroom();
-        for (int number : numbers) {
-            room.file(number);
-        }
-        for (int p = 0; p < parties; p++) {
-            room.party(128);
-            for (int f = 0; f < numbers.length; f++) {
-                room.right(p, f, Dataroom.READ, 0, 5000);
-            }
-        }
-        return room;
-    }
-
     private static void promise1NewObject() {
         Dataroom room = new Dataroom();
         Check.due("all of a new room", Check.everything(room), "0 files, 0 parties");
@@ -39,7 +24,7 @@ public final class RoomTest {
         Check.dueIndex("ask in a new room", room, () -> room.ask(0, 1, 0));
         Check.dueIndex("answer in a new room", room, () -> room.answer(0, 0));
         Check.due("the first hour and one more", room.pass(1), 1);
-        Dataroom other = roomOf(1, 5);
+        Dataroom other = Check.roomOf(1, Dataroom.READ, 5);
         other.ask(0, 1, ALL);
         Check.due("a new room beside another one", Check.everything(new Dataroom()), "0 files, 0 parties");
     }
@@ -66,7 +51,7 @@ public final class RoomTest {
     }
 
     private static void promise3Change() {
-        Dataroom room = roomOf(2, 3, 5);
+        Dataroom room = Check.roomOf(2, Dataroom.READ, 3, 5);
         Check.due("change with no answer", room.change(0, 1), 0);
         room.ask(0, 1, ALL);
         room.ask(0, 3, 2);
@@ -106,7 +91,7 @@ public final class RoomTest {
     }
 
     private static void promise5Budget() {
-        Dataroom room = roomOf(2, 1);
+        Dataroom room = Check.roomOf(2, Dataroom.READ, 1);
         Check.due("the one before", room.budget(0, 8), 128);
         Check.due("the one before that", room.budget(0, 8), 8);
         Check.due("of the other party", room.budget(1, 128), 128);
@@ -156,7 +141,7 @@ public final class RoomTest {
     }
 
     private static void promise6RightTakesThePlace() {
-        Dataroom room = roomOf(1, 1, 2);
+        Dataroom room = Check.roomOf(1, Dataroom.READ, 1, 2);
         room.ask(0, 1, ALL);
         room.right(0, 0, Dataroom.ASK, 0, 10);
         Check.due("a later right takes the place", room.rightTo(0, 0), Dataroom.ASK);
@@ -168,7 +153,7 @@ public final class RoomTest {
     }
 
     private static void promise7TakeBack() {
-        Dataroom room = roomOf(2, 3, 5, 6);
+        Dataroom room = Check.roomOf(2, Dataroom.READ, 3, 5, 6);
         room.ask(0, 1, ALL);
         room.ask(0, 3, ALL);
         room.ask(0, 6, 0);
@@ -189,7 +174,7 @@ public final class RoomTest {
     }
 
     private static void promise7TakeBackOfOtherHours() {
-        Dataroom room = roomOf(1, 3, 5);
+        Dataroom room = Check.roomOf(1, Dataroom.READ, 3, 5);
         room.ask(0, 1, ALL);
         room.ask(0, 3, ALL);
         room.right(0, 0, Dataroom.READ, 7, 9);
@@ -207,7 +192,7 @@ public final class RoomTest {
     }
 
     private static void promise8Seal() {
-        Dataroom room = roomOf(1, 1, 1);
+        Dataroom room = Check.roomOf(1, Dataroom.READ, 1, 1);
         Check.dueIndex("seal(2, 0)", room, () -> room.seal(2, 0));
         Check.dueIndex("seal(-1, 0)", room, () -> room.seal(-1, 0));
         Check.dueIndex("seal(2, 5001): the index first", room, () -> room.seal(2, 5001));
@@ -235,7 +220,7 @@ public final class RoomTest {
     }
 
     private static void promise9Pass() {
-        Dataroom room = roomOf(1, 1);
+        Dataroom room = Check.roomOf(1, Dataroom.READ, 1);
         Check.dueArgument("pass(0)", room, () -> room.pass(0));
         Check.dueArgument("pass(501)", room, () -> room.pass(501));
         Check.dueArgument("pass(least int)", room, () -> room.pass(Integer.MIN_VALUE));
