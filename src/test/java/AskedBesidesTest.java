@@ -34,14 +34,14 @@ public final class AskedBesidesTest {
         room.ask(0, 1, 2);
         Check.due("all bits", told(room, 0), "1 3 -1 207 0 0 ");
         Check.due("one bit", told(room, 1), "0 2 2 1 0 42 ");
-        Check.dueIndex("a refused one has no number", room, () -> room.answer(2, 0));
+        Check.dueIndex("a refused one has no number", () -> room.answer(2, 0));
         room.change(0, 0);
         Check.due("recalled, as it was given", told(room, 0), "1 3 -1 207 1 0 ");
         Check.due("not recalled", told(room, 1), "0 2 2 1 0 42 ");
-        Check.dueIndex("answer(-1, 0)", room, () -> room.answer(-1, 0));
-        Check.dueIndex("the index first", room, () -> room.answer(2, 6));
-        Check.dueArgument("answer(0, 6)", room, () -> room.answer(0, 6));
-        Check.dueArgument("answer(0, -1)", room, () -> room.answer(0, -1));
+        Check.dueIndex("answer(-1, 0)", () -> room.answer(-1, 0));
+        Check.dueIndex("the index first", () -> room.answer(2, 6));
+        Check.dueArgument("answer(0, 6)", () -> room.answer(0, 6));
+        Check.dueArgument("answer(0, -1)", () -> room.answer(0, -1));
     }
 
     private static void dueSpent(String what, Dataroom room, int party, int want) {
@@ -71,10 +71,10 @@ public final class AskedBesidesTest {
         room.seal(3, 0);
         room.ask(0, 8, 0);
         dueSpent("refused", room, 0, 0);
-        Check.dueIndex("spent(2)", room, () -> room.spent(2));
-        Check.dueIndex("spent(-1)", room, () -> room.spent(-1));
-        Check.dueIndex("spentAnew(2)", room, () -> room.spentAnew(2));
-        Check.dueIndex("spentAnew(-1)", room, () -> room.spentAnew(-1));
+        Check.dueIndex("spent(2)", () -> room.spent(2));
+        Check.dueIndex("spent(-1)", () -> room.spent(-1));
+        Check.dueIndex("spentAnew(2)", () -> room.spentAnew(2));
+        Check.dueIndex("spentAnew(-1)", () -> room.spentAnew(-1));
     }
 
     private static void promises13And14SpentOfManyFiles() {
@@ -119,10 +119,10 @@ public final class AskedBesidesTest {
         Check.due("also without the right to READ", room.finds(0, 2), 255);
         room.change(0, 1);
         Check.due("recalled", room.finds(0, 0) + room.finds(0, 1), 0);
-        Check.dueIndex("finds(2, 0)", room, () -> room.finds(2, 0));
-        Check.dueIndex("finds(-1, 0)", room, () -> room.finds(-1, 0));
-        Check.dueIndex("finds(0, 3)", room, () -> room.finds(0, 3));
-        Check.dueIndex("finds(0, -1)", room, () -> room.finds(0, -1));
+        Check.dueIndex("finds(2, 0)", () -> room.finds(2, 0));
+        Check.dueIndex("finds(-1, 0)", () -> room.finds(-1, 0));
+        Check.dueIndex("finds(0, 3)", () -> room.finds(0, 3));
+        Check.dueIndex("finds(0, -1)", () -> room.finds(0, -1));
     }
 
     private static void promise16Together() {
@@ -138,17 +138,17 @@ public final class AskedBesidesTest {
         Check.due("all", room.together(7, 1), 1);
         Check.due("no party", room.together(0, 2), 0);
         Check.due("none of them finds it alone", room.finds(0, 2) + room.finds(1, 2) + room.finds(2, 2), 0);
-        Check.dueIndex("together(1, 3)", room, () -> room.together(1, 3));
-        Check.dueIndex("together(1, -1)", room, () -> room.together(1, -1));
-        Check.dueIndex("the index first", room, () -> room.together(8, 3));
-        Check.dueArgument("together(8, 0)", room, () -> room.together(8, 0));
-        Check.dueArgument("together(9, 0)", room, () -> room.together(9, 0));
-        Check.dueArgument("together(-1, 0)", room, () -> room.together(-1, 0));
-        Check.dueArgument("the sign alone", room, () -> room.together(Integer.MIN_VALUE, 0));
+        Check.dueIndex("together(1, 3)", () -> room.together(1, 3));
+        Check.dueIndex("together(1, -1)", () -> room.together(1, -1));
+        Check.dueIndex("the index first", () -> room.together(8, 3));
+        Check.dueArgument("together(8, 0)", () -> room.together(8, 0));
+        Check.dueArgument("together(9, 0)", () -> room.together(9, 0));
+        Check.dueArgument("together(-1, 0)", () -> room.together(-1, 0));
+        Check.dueArgument("the sign alone", () -> room.together(Integer.MIN_VALUE, 0));
         Dataroom alone = new Dataroom();
         alone.file(3);
         Check.due("without parties", alone.together(0, 0), 0);
-        Check.dueArgument("without parties, one", alone, () -> alone.together(1, 0));
+        Check.dueArgument("without parties, one", () -> alone.together(1, 0));
     }
 
     private static void promise16TogetherRecalled() {
@@ -183,10 +183,10 @@ public final class AskedBesidesTest {
         Check.due("ASK in its first hour, sealed or not", room.rightTo(0, 1), ASK);
         room.pass(1);
         Check.due("over", room.rightTo(1, 0), Dataroom.NOTHING);
-        Check.dueIndex("rightTo(2, 0)", room, () -> room.rightTo(2, 0));
-        Check.dueIndex("rightTo(-1, 0)", room, () -> room.rightTo(-1, 0));
-        Check.dueIndex("rightTo(0, 2)", room, () -> room.rightTo(0, 2));
-        Check.dueIndex("rightTo(0, -1)", room, () -> room.rightTo(0, -1));
+        Check.dueIndex("rightTo(2, 0)", () -> room.rightTo(2, 0));
+        Check.dueIndex("rightTo(-1, 0)", () -> room.rightTo(-1, 0));
+        Check.dueIndex("rightTo(0, 2)", () -> room.rightTo(0, 2));
+        Check.dueIndex("rightTo(0, -1)", () -> room.rightTo(0, -1));
     }
 
     private static void promise18IsSealed() {
@@ -199,8 +199,8 @@ public final class AskedBesidesTest {
         Check.due("in the last hour", room.isSealed(1), true);
         room.pass(1);
         Check.due("behind it", room.isSealed(1), false);
-        Check.dueIndex("isSealed(2)", room, () -> room.isSealed(2));
-        Check.dueIndex("isSealed(-1)", room, () -> room.isSealed(-1));
+        Check.dueIndex("isSealed(2)", () -> room.isSealed(2));
+        Check.dueIndex("isSealed(-1)", () -> room.isSealed(-1));
     }
 
     private static String counts(Dataroom room, int party) {
@@ -236,10 +236,10 @@ public final class AskedBesidesTest {
         Check.due("the other party", counts(room, 1), "000000");
         room.takeBack(0, 1);
         Check.due("recalled ones were answered all the same", counts(room, 0), "253140");
-        Check.dueIndex("count(2, 0)", room, () -> room.count(2, 0));
-        Check.dueIndex("count(-1, 0)", room, () -> room.count(-1, 0));
-        Check.dueIndex("the index first", room, () -> room.count(2, 6));
-        Check.dueArgument("count(0, 6)", room, () -> room.count(0, 6));
-        Check.dueArgument("count(0, -1)", room, () -> room.count(0, -1));
+        Check.dueIndex("count(2, 0)", () -> room.count(2, 0));
+        Check.dueIndex("count(-1, 0)", () -> room.count(-1, 0));
+        Check.dueIndex("the index first", () -> room.count(2, 6));
+        Check.dueArgument("count(0, 6)", () -> room.count(0, 6));
+        Check.dueArgument("count(0, -1)", () -> room.count(0, -1));
     }
 }

@@ -41,21 +41,21 @@ public final class QuestionsTest {
     private static void promise10Throws() {
         Dataroom room = Check.roomOf(1, READ, 1, 2);
         room.ask(0, 3, 0);
-        Check.dueIndex("ask of the party 1", room, () -> room.ask(1, 1, 0));
-        Check.dueIndex("ask of the party -1", room, () -> room.ask(-1, 1, 0));
-        Check.dueIndex("the index first", room, () -> room.ask(1, 0, 8));
-        Check.dueArgument("no files", room, () -> room.ask(0, 0, 0));
-        Check.dueArgument("a file that there is not", room, () -> room.ask(0, 4, 0));
-        Check.dueArgument("one beside two", room, () -> room.ask(0, 7, 0));
-        Check.dueArgument("a file far off", room, () -> room.ask(0, 1 << 30 | 1, 0));
-        Check.dueArgument("a set below 0", room, () -> room.ask(0, -1, 0));
-        Check.dueArgument("the sign alone", room, () -> room.ask(0, Integer.MIN_VALUE, 0));
-        Check.dueArgument("the bit 8", room, () -> room.ask(0, 1, 8));
-        Check.dueArgument("the bit -2", room, () -> room.ask(0, 1, -2));
+        Check.dueIndex("ask of the party 1", () -> room.ask(1, 1, 0));
+        Check.dueIndex("ask of the party -1", () -> room.ask(-1, 1, 0));
+        Check.dueIndex("the index first", () -> room.ask(1, 0, 8));
+        Check.dueArgument("no files", () -> room.ask(0, 0, 0));
+        Check.dueArgument("a file that there is not", () -> room.ask(0, 4, 0));
+        Check.dueArgument("one beside two", () -> room.ask(0, 7, 0));
+        Check.dueArgument("a file far off", () -> room.ask(0, 1 << 30 | 1, 0));
+        Check.dueArgument("a set below 0", () -> room.ask(0, -1, 0));
+        Check.dueArgument("the sign alone", () -> room.ask(0, Integer.MIN_VALUE, 0));
+        Check.dueArgument("the bit 8", () -> room.ask(0, 1, 8));
+        Check.dueArgument("the bit -2", () -> room.ask(0, 1, -2));
         Dataroom empty = new Dataroom();
         empty.party(128);
-        Check.dueArgument("without files", empty, () -> empty.ask(0, 1, 0));
-        Check.dueArgument("without files, none", empty, () -> empty.ask(0, 0, 0));
+        Check.dueArgument("without files", () -> empty.ask(0, 1, 0));
+        Check.dueArgument("without files, none", () -> empty.ask(0, 0, 0));
     }
 
     private static void promise10MostAnswers() {
@@ -68,12 +68,12 @@ public final class QuestionsTest {
         room.change(0, 0);
         Check.due("the last answer", room.ask(0, 1, 0), 0);
         Check.due("its number", room.answer(149, 4), 0);
-        Check.dueState("one more", room, () -> room.ask(0, 1, 0));
-        Check.dueState("one that would be refused", room, () -> room.ask(1, 1, 0));
-        Check.dueArgument("one more, out of range", room, () -> room.ask(0, 2, 0));
-        Check.dueIndex("one more, of no party", room, () -> room.ask(2, 1, 0));
+        Check.dueState("one more", () -> room.ask(0, 1, 0));
+        Check.dueState("one that would be refused", () -> room.ask(1, 1, 0));
+        Check.dueArgument("one more, out of range", () -> room.ask(0, 2, 0));
+        Check.dueIndex("one more, of no party", () -> room.ask(2, 1, 0));
         room.change(0, 1);
-        Check.dueState("also when all are recalled", room, () -> room.ask(0, 1, 0));
+        Check.dueState("also when all are recalled", () -> room.ask(0, 1, 0));
         Check.due("the cost can be asked still", room.cost(0, 1, ALL), 8);
     }
 
@@ -246,13 +246,13 @@ public final class QuestionsTest {
 
     private static void promise11Throws() {
         Dataroom room = Check.roomOf(1, READ, 1, 2);
-        Check.dueIndex("cost of the party 1", room, () -> room.cost(1, 1, 0));
-        Check.dueIndex("cost of the party -1", room, () -> room.cost(-1, 1, 0));
-        Check.dueIndex("the index first", room, () -> room.cost(1, 0, 8));
-        Check.dueArgument("no files", room, () -> room.cost(0, 0, 0));
-        Check.dueArgument("a file that there is not", room, () -> room.cost(0, 4, 0));
-        Check.dueArgument("a set below 0", room, () -> room.cost(0, -1, 0));
-        Check.dueArgument("the bit 8", room, () -> room.cost(0, 1, 8));
-        Check.dueArgument("the bit -2", room, () -> room.cost(0, 1, -2));
+        Check.dueIndex("cost of the party 1", () -> room.cost(1, 1, 0));
+        Check.dueIndex("cost of the party -1", () -> room.cost(-1, 1, 0));
+        Check.dueIndex("the index first", () -> room.cost(1, 0, 8));
+        Check.dueArgument("no files", () -> room.cost(0, 0, 0));
+        Check.dueArgument("a file that there is not", () -> room.cost(0, 4, 0));
+        Check.dueArgument("a set below 0", () -> room.cost(0, -1, 0));
+        Check.dueArgument("the bit 8", () -> room.cost(0, 1, 8));
+        Check.dueArgument("the bit -2", () -> room.cost(0, 1, -2));
     }
 }
